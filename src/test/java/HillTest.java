@@ -200,6 +200,12 @@ public final class HillTest {
         fault(x, "hill", 4);
         fault(x, "hil", 0);
         fault(x, "hills 0;", 0);
+        fault(x, "hillz 0;", 0);
+        fault(x, "hilla 0;", 0);
+        fault(x, "hill`0;", 4);
+        fault(x, "hill{0;", 4);
+        fault(x, "hill/0;", 4);
+        fault(x, "hill:0;", 4);
         fault(x, "Hill 0;", 0);
         fault(x, "hill 0", 6);
         fault(x, "hill  8;", 6);

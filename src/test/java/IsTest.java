@@ -154,6 +154,14 @@ public final class IsTest {
         Due.due("28 the first one", x.eclipses(0, 1), 0);
         // X is 1103527590, so that THE TRACK is 16838 by 8, 6, and THE DARK 1052 by 241, 88.
         Due.due("28 the first one", x.eclipses(1, 1), 88 - 45);
+        // X is 377401575 then, so that THE TRACK is 5758 by 8, 6, and THE DARK 359 by 241, 118.
+        Due.due("28 two", x.eclipses(1, 2), 88 - 45 + 118 - 45);
+        x.one(0, 500);
+        x.height(6, 1);
+        x.sell(6);
+        Due.due("28 one more, who sees past the first", x.eclipses(1, 2), 88 - 45 + 118 - 45 + 88 + 118);
+        x.height(6, 0);
+        Due.due("28 who sees nothing", x.eclipses(1, 2), 88 - 45 + 118 - 45);
         Due.due("28 BAD", x.eclipses(-1, 0), -2);
         Due.due("28 BAD", x.eclipses(1000000, 0), -2);
         Due.due("28 BAD", x.eclipses(0, -1), -2);

@@ -170,6 +170,11 @@ public final class SeesTest {
         EclipseSeats x = read("hill 3;one 0 0;one 1 0;one 3 0;one 3 0;seat 0 5;");
         Due.due("21 nobody is hurt", x.move(0), 0);
         Due.due("21 nobody is hurt", x.move(1), 0);
+        x = read("hill 3;one 0 0;one 1 0;seat 1 0;seat 0 1;");
+        Due.due("21 the one behind", x.move(0), 1);
+        x = read("hill 3;one 3 0;one 3 0;seat 1 0;seat 0 1;");
+        Due.due("21 of like ones the first", x.move(0), 0);
+        Due.due("21 nobody is hurt by a dog", x.move(1), 0);
         x = read("hill 3;one 3 0;one 1 0;one 1 0;one 3 0;seat 0 5;seat 1 1;");
         Due.due("21 who", x.move(0), 1);
         Due.due("21 how much", x.move(1), 222);

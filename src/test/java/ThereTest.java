@@ -3,6 +3,7 @@ public final class ThereTest {
     public static void main(String[] args) {
         promise29();
         promise30And31();
+        promise31Whole();
         promise32();
         promise33();
         promise34();
@@ -72,6 +73,46 @@ public final class ThereTest {
         x.from(0);
         Due.due("31 the fraction stays", x.part(0), above);
         Due.dueStatus(x, 4, 1, 0);
+    }
+
+    private static void promise31Whole() {
+        EclipseSeats x = new EclipseSeats();
+        Due.readText(x, "hill 1;dark 20;heights 9 8 7 6 5 4 3 2;one 0 50;one 1 49;one 2 48;one 3 47;one 5 46;");
+        int[] seats = {0, 5, 2, 7, 4};
+        for (int y : seats) {
+            x.sell(y);
+        }
+        for (int p = 0; p < 3; p++) {
+            x.leave(p);
+        }
+        for (int n = 0; n < 6; n++) {
+            x.note(n % 5, 30 * n, n, 40 * n);
+        }
+        long then = x.digest();
+        long[] undone = new long[8];
+        x.image(0);
+        for (int i = 0; i < 8; i++) {
+            x.undo();
+            undone[i] = x.digest();
+        }
+        x.hill(0, 0);
+        for (int p = 0; p < 5; p++) {
+            x.one(5 - p, 500 - p);
+        }
+        for (int n = 0; n < 6; n++) {
+            x.note(0, 240 - n, 9, 500 - n);
+        }
+        for (int i = 0; i < 12; i++) {
+            x.sell(i % 8);
+            x.leave(i % 5);
+        }
+        x.from(0);
+        Due.due("31 all is as it was", x.digest(), then);
+        for (int i = 0; i < 8; i++) {
+            x.undo();
+            Due.due("31 and all that was undone", x.digest(), undone[i]);
+        }
+        Due.due("31 and no more", x.undo(), -3);
     }
 
     private static void promise32() {

@@ -86,6 +86,7 @@ public final class YardsTest {
         Due.due("12 is back", x.of(0, 3), 5);
         Due.due("12 moved", x.undo(), 7);
         Due.due("12 is back", x.of(0, 3), 3);
+        Due.due("12 its price", x.of(0, 2), 200);
         Due.due("12 sold", x.undo(), 8);
         Due.due("12 has none", x.of(0, 3), -1);
         Due.due("12 purse", x.of(0, 1), 300);
