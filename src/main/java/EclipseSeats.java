@@ -914,7 +914,7 @@ public final class EclipseSeats {
             int everybody = (1 << hill.bidders) - 1;
             for (int y = 0; y < YARDS; y++) {
                 lookAt(hill, y);
-                // From the fullest set down, so that nobody is seated twice in one yard.
+                // From the fullest set down, so that a yard takes one bidder at most.
                 for (int set = everybody - 1; set >= 0; set--) {
                     spread(hill, y, set);
                 }
