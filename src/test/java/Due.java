@@ -2,6 +2,11 @@
 final class Due {
     private static int wrong = 0;
 
+    /** A call, or several, on an object. */
+    interface Call {
+        long on(EclipseSeats x);
+    }
+
     private Due() { }
 
     static void due(String call, long got, long want) {
@@ -9,6 +14,16 @@ final class Due {
             wrong++;
             System.out.println(call + " answered " + got + ", due is " + want);
         }
+    }
+
+    /** A new object on which this text was read. */
+    static EclipseSeats told(String text) {
+        EclipseSeats x = new EclipseSeats();
+        if (readText(x, text) < 0) {
+            wrong++;
+            System.out.println("a fault in " + text);
+        }
+        return x;
     }
 
     static int readText(EclipseSeats x, String text) {

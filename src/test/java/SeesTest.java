@@ -12,16 +12,8 @@ public final class SeesTest {
         Due.end();
     }
 
-    private static EclipseSeats read(String text) {
-        EclipseSeats x = new EclipseSeats();
-        if (Due.readText(x, text) < 0) {
-            Due.due("read " + text, -1, 0);
-        }
-        return x;
-    }
-
     private static void promise15() {
-        EclipseSeats x = read("hill 3;heights 0 0 3 3 4 0 0 9;one 1 50;one 0 50;one 0 50;seat 0 1;seat 1 5;");
+        EclipseSeats x = Due.told("hill 3;heights 0 0 3 3 4 0 0 9;one 1 50;one 0 50;one 0 50;seat 0 1;seat 1 5;");
         Due.due("15 nobody before it", x.sees(0, -1), 222);
         Due.due("15 behind a head", x.sees(1, -1), 0);
         Due.due("15 without a yard", x.sees(2, -1), 0);
@@ -42,7 +34,7 @@ public final class SeesTest {
     }
 
     private static void promise16() {
-        EclipseSeats x = read("hill 3;one 0 50;one 2 10;one 0 10;seat 0 3;");
+        EclipseSeats x = Due.told("hill 3;one 0 50;one 2 10;one 0 10;seat 0 3;");
         Due.due("16 now", x.gives(0, -1), 240);
         Due.due("16 none", x.gives(1, -1), 0);
         Due.due("16 purse at most", x.gives(1, 2), 100);
@@ -103,7 +95,7 @@ public final class SeesTest {
     }
 
     private static void promise18() {
-        EclipseSeats x = read("hill 3;heights 0 0 0 0 1 0 0 0;one 1 1;one 3 1;one 0 1;one 3 1;seat 0 5;seat 1 3;seat 2 7;");
+        EclipseSeats x = Due.told("hill 3;heights 0 0 0 0 1 0 0 0;one 1 1;one 3 1;one 0 1;one 3 1;seat 0 5;seat 1 3;seat 2 7;");
         Due.due("18 none behind but one hidden already", x.hurt(1, 3), 0);
         Due.due("18 its own", x.hurt(0, 5), 204);
         Due.due("18 further in front", x.hurt(0, 0), 204 + 240);
@@ -120,16 +112,16 @@ public final class SeesTest {
     }
 
     private static void promise19() {
-        EclipseSeats x = read("hill 3;one 0 0;");
+        EclipseSeats x = Due.told("hill 3;one 0 0;");
         Due.due("19 under the track", x.best(0, 0), 3);
         Due.due("19 purses are not asked", x.best(0, 1), 240);
-        x = read("hill 3;one 1 0;one 0 0;seat 1 3;");
+        x = Due.told("hill 3;one 1 0;one 0 0;seat 1 3;");
         Due.due("19 behind one who hides it: 0, ahead: less", x.best(0, 0), 4);
         Due.due("19 how much", x.best(0, 1), 0);
-        x = read("hill 3;dark 0;one 1 0;");
+        x = Due.told("hill 3;dark 0;one 1 0;");
         Due.due("19 the least", x.best(0, 0), 0);
         Due.due("19 nothing", x.best(0, 1), 0);
-        x = read("hill 0;one 4 0;one 3 0;one 3 0;seat 1 7;seat 2 6;");
+        x = Due.told("hill 0;one 4 0;one 3 0;one 3 0;seat 1 7;seat 2 6;");
         Due.due("19 the least of like ones", x.best(0, 0), 0);
         Due.due("19 below 0", x.best(0, 1), 240 - 177 - 186);
         Due.due("19 BAD", x.best(3, 0), -10000);
@@ -167,21 +159,21 @@ public final class SeesTest {
     }
 
     private static void promise21() {
-        EclipseSeats x = read("hill 3;one 0 0;one 1 0;one 3 0;one 3 0;seat 0 5;");
+        EclipseSeats x = Due.told("hill 3;one 0 0;one 1 0;one 3 0;one 3 0;seat 0 5;");
         Due.due("21 nobody is hurt", x.move(0), 0);
         Due.due("21 nobody is hurt", x.move(1), 0);
-        x = read("hill 3;one 0 0;one 1 0;seat 1 0;seat 0 1;");
+        x = Due.told("hill 3;one 0 0;one 1 0;seat 1 0;seat 0 1;");
         Due.due("21 the one behind", x.move(0), 1);
-        x = read("hill 3;one 3 0;one 3 0;seat 1 0;seat 0 1;");
+        x = Due.told("hill 3;one 3 0;one 3 0;seat 1 0;seat 0 1;");
         Due.due("21 of like ones the first", x.move(0), 0);
         Due.due("21 nobody is hurt by a dog", x.move(1), 0);
-        x = read("hill 3;one 3 0;one 1 0;one 1 0;one 3 0;seat 0 5;seat 1 1;");
+        x = Due.told("hill 3;one 3 0;one 1 0;one 1 0;one 3 0;seat 0 5;seat 1 1;");
         Due.due("21 who", x.move(0), 1);
         Due.due("21 how much", x.move(1), 222);
-        x = read("hill 3;one 3 0;one 1 0;one 1 0;one 3 0;seat 0 5;seat 1 1;seat 2 2;");
+        x = Due.told("hill 3;one 3 0;one 1 0;one 1 0;one 3 0;seat 0 5;seat 1 1;seat 2 2;");
         Due.due("21 the one hides the other", x.move(0), 1);
         Due.due("21 how much", x.move(1), 231);
-        x = read("hill 3;one 3 0;");
+        x = Due.told("hill 3;one 3 0;");
         Due.due("21 nobody has a yard", x.move(0), -1);
         Due.due("21 nobody has a yard", x.move(1), -1);
         Due.due("21 BAD", x.move(2), -2);
