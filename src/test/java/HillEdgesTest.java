@@ -20,6 +20,8 @@ public final class HillEdgesTest {
         textOfMostBytes();
         textOfMostBidders();
         bytesThatBeginNone();
+        wordsThatAreNone();
+        clearedBytesAreNotRead();
         readTakesThePlace();
         faultLeavesAll();
         Due.end();
@@ -56,10 +58,12 @@ public final class HillEdgesTest {
         Due.due("as a new one", x.digest(), new EclipseSeats().digest());
         Due.due("none is left", x.hill(3, 240), 0);
         Due.due("nothing to undo", x.undo(), -3);
-        Due.due("from 0 again", x.one(4, 500), 0);
-        Due.due("paid at first", x.of(0, 2), 0);
-        Due.due("no yard at first", x.of(0, 3), -1);
-        Due.due("none knows it", x.is(0), 63);
+        for (int p = 0; p < 5; p++) {
+            Due.due("from 0 again", x.one(4, 500), p);
+            Due.due("paid at first", x.of(p, 2), 0);
+            Due.due("no yard at first", x.of(p, 3), -1);
+            Due.due("none knows it", x.is(p), 63);
+        }
     }
 
     private static void darkIsZeroAtLeast() {
@@ -88,7 +92,7 @@ public final class HillEdgesTest {
     }
 
     private static void dueDark(EclipseSeats x, int track, int dark, int y, int want) {
-        x.track(track, dark);
+        Due.due("track", x.track(track, dark), 1);
         Due.due("dark in " + y + " by " + track + ", " + dark, x.yard(y, 1), want);
     }
 
@@ -324,6 +328,44 @@ public final class HillEdgesTest {
             int due = c == ' ' ? 1 : c == ';' ? -17 : figure ? -15 : -16;
             Due.due("byte " + c + " behind hill 5", other.read(), due);
         }
+    }
+
+    /** A word with a letter changed, left out or put behind it is none. */
+    private static void wordsThatAreNone() {
+        String[] rest = {" 0;", " 1;", " 1 1 1 1 1 1 1 1;", " 0 0;", " 0 0;"};
+        for (int w = 0; w < WORDS.length; w++) {
+            String ahead = w == 0 ? "" : "hill 0;one 0 0;";
+            String word = WORDS[w];
+            reads(ahead + word + rest[w], w == 0 ? 1 : 3);
+            for (int i = 0; i < word.length(); i++) {
+                faults(ahead + word.substring(0, i) + "z" + word.substring(i + 1) + rest[w], ahead.length());
+                faults(ahead + word.substring(0, i) + word.substring(i + 1) + rest[w], ahead.length());
+            }
+            for (char c = 'a'; c <= 'z'; c++) {
+                faults(ahead + word + c + rest[w], ahead.length());
+            }
+            faults(ahead + word.toUpperCase() + rest[w], ahead.length());
+            faults(ahead + word + '`' + rest[w], ahead.length() + word.length());
+            faults(ahead + word + '{' + rest[w], ahead.length() + word.length());
+        }
+    }
+
+    private static void clearedBytesAreNotRead() {
+        String[] texts = {"hill 77;;", "hill 7 ;", "hill 7;;", "hillhill 7;"};
+        for (String text : texts) {
+            for (int length = 0; length < text.length(); length++) {
+                EclipseSeats x = new EclipseSeats();
+                Due.typeText(x, text);
+                Due.typeText(x, text.substring(0, length));
+                EclipseSeats fresh = new EclipseSeats();
+                Due.typeText(fresh, text.substring(0, length));
+                Due.due("the first " + length + " of " + text, x.read(), fresh.read());
+            }
+        }
+        faults("hill" + " ".repeat(145) + "7", 150);
+        faults("hill" + " ".repeat(144) + "07", 150);
+        faults(" ".repeat(146) + "hill", 150);
+        faults("hill" + " ".repeat(143) + "007", 147);
     }
 
     private static void readTakesThePlace() {

@@ -13,6 +13,7 @@ public final class OddsEdgesTest {
         offerOfTheLastYard();
         offerWhereWorthIsAlike();
         twoOfAllPairs();
+        twoOfOneHillAfterAnother();
         twoOfNoPairs();
         twoOfTheSameYard();
         twoOnABareHill();
@@ -20,7 +21,9 @@ public final class OddsEdgesTest {
         cloudsOverNobody();
         eclipsesOfNone();
         eclipsesWrapAround();
+        eclipsesOfManySeeds();
         undoEightAtMost();
+        noneMayBeUndone();
         undoneAndDoneAnew();
         imagesAreTwo();
         imagesKeepNotTheRest();
@@ -121,6 +124,9 @@ public final class OddsEdgesTest {
         Due.due("alike on 0", x.offer(0), 1);
         x.track(0, 4);
         Due.due("unlike on 0", x.offer(0), 0);
+        x.forget();
+        x.track(0, 40);
+        Due.due("two and two of all kinds", x.offer(0), 1);
     }
 
     private static void twoOfAllPairs() {
@@ -132,6 +138,15 @@ public final class OddsEdgesTest {
         Due.due("not so many", x.two(0, 1, 64), -5);
         Due.due("not so many", x.two(1, 0, 65), -5);
         Due.dueStatus(x, 0, 0, 0);
+    }
+
+    private static void twoOfOneHillAfterAnother() {
+        EclipseSeats x = Due.told("hill 3;one 3 0;one 3 0;");
+        Due.due("two dogs", x.two(0, 1, -1), 4);
+        x.track(3, 0);
+        Due.due("without dark all pairs", x.two(0, 1, -1), 64);
+        x.track(0, 240);
+        Due.due("two dogs by the first yard", x.two(0, 1, -1), 2);
     }
 
     private static void twoOfNoPairs() {
@@ -223,6 +238,13 @@ public final class OddsEdgesTest {
         }
     }
 
+    private static void eclipsesOfManySeeds() {
+        EclipseSeats x = Due.told("hill 3;one 0 50;one 0 50;seat 0 4;seat 1 6;");
+        for (int seed = 0; seed <= 999999; seed += 3001) {
+            Due.due("eclipses " + seed + ", who is hidden sees nothing", x.eclipses(seed, 60), seenUnder(seed, 60, 4));
+        }
+    }
+
     private static int seenUnder(int seed, int n, int y) {
         BigInteger x = BigInteger.valueOf(seed);
         int seen = 0;
@@ -251,6 +273,20 @@ public final class OddsEdgesTest {
             }
             Due.due("none more of " + done, x.undo(), -3);
             Due.dueStatus(x, 0, 1, 0);
+        }
+    }
+
+    private static void noneMayBeUndone() {
+        Due.Call[] calls = {x -> x.one(0, 0), x -> x.height(7, 0), x -> x.track(3, 240), x -> x.hill(3, 240),
+            x -> Due.readText(x, "hill 3;one 3 50;seat 0 0;")};
+        for (Due.Call call : calls) {
+            EclipseSeats x = Due.told("hill 3;one 3 50;seat 0 0;");
+            x.moves(0, 7);
+            x.moves(0, 6);
+            call.on(x);
+            Due.due("none may be undone", x.count(5), 0);
+            Due.due("undo", x.undo(), -3);
+            Due.due("none still", x.count(5), 0);
         }
     }
 
@@ -285,10 +321,10 @@ public final class OddsEdgesTest {
 
     private static void imagesAreTwo() {
         EclipseSeats x = Due.told("hill 3;one 3 50;");
-        x.image(0);
+        Due.due("kept", x.image(0), 1);
         Due.due("the other was not kept", x.from(1), -3);
         x.sell(0);
-        x.image(1);
+        Due.due("kept", x.image(1), 1);
         x.leave(0);
         Due.due("the first", x.from(0), 1);
         Due.due("nobody had a yard", x.of(0, 3), -1);

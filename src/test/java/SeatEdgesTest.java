@@ -272,6 +272,15 @@ public final class SeatEdgesTest {
         for (int p = 0; p < 5; p++) {
             Due.due("the very first way", x.all(p), p);
         }
+        String[] high = {"8 8 8 8 8 8 8 8", "9 9 9 9 9 9 9 9", "9 9 9 9 8 8 8 8"};
+        for (String heights : high) {
+            x = Due.told("hill 3;heights " + heights + ";one 0 0;one 1 0;");
+            Due.due("heads above all heights " + heights, x.all(-1), 240);
+            Due.due("the one who sees", x.all(0), 3);
+            Due.due("the one behind", x.all(1), 4);
+        }
+        x = Due.told("hill 3;heights 0 0 0 8 9 9 9 9;one 0 0;one 0 0;");
+        Due.due("a head as high as the highest yard", x.all(-1), 471);
         x = Due.told("hill 7;one 0 0;one 0 0;");
         Due.due("each hides whoever is behind", x.all(-1), 231);
         Due.due("6 and 7, not 7 and 6", x.all(0), 6);

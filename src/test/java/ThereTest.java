@@ -77,7 +77,8 @@ public final class ThereTest {
 
     private static void promise31Whole() {
         EclipseSeats x = new EclipseSeats();
-        Due.readText(x, "hill 1;dark 20;heights 9 8 7 6 5 4 3 2;one 0 50;one 1 49;one 2 48;one 3 47;one 5 46;");
+        // Each yard is as high as a plain head before it, so that all five can be sold one.
+        Due.readText(x, "hill 1;dark 20;heights 2 3 4 5 6 7 8 9;one 0 50;one 3 49;one 2 48;one 3 47;one 5 46;");
         int[] seats = {0, 5, 2, 7, 4};
         for (int y : seats) {
             x.sell(y);
@@ -88,6 +89,7 @@ public final class ThereTest {
         for (int n = 0; n < 6; n++) {
             x.note(n % 5, 30 * n, n, 40 * n);
         }
+        Due.due("31 eight may be undone", x.count(5), 8);
         long then = x.digest();
         long[] undone = new long[8];
         x.image(0);
@@ -95,7 +97,7 @@ public final class ThereTest {
             x.undo();
             undone[i] = x.digest();
         }
-        x.hill(0, 0);
+        x.hill(0, 240);
         for (int p = 0; p < 5; p++) {
             x.one(5 - p, 500 - p);
         }
@@ -103,9 +105,9 @@ public final class ThereTest {
             x.note(0, 240 - n, 9, 500 - n);
         }
         for (int i = 0; i < 12; i++) {
-            x.sell(i % 8);
-            x.leave(i % 5);
+            x.leave(x.sell(i % 8));
         }
+        Due.due("31 other things may be undone", x.count(5), 8);
         x.from(0);
         Due.due("31 all is as it was", x.digest(), then);
         for (int i = 0; i < 8; i++) {
