@@ -22,6 +22,7 @@ public final class OddsEdgesTest {
         eclipsesOfNone();
         eclipsesWrapAround();
         eclipsesOfManySeeds();
+        eclipsesOfAllFive();
         undoEightAtMost();
         noneMayBeUndone();
         undoneAndDoneAnew();
@@ -243,6 +244,17 @@ public final class OddsEdgesTest {
         for (int seed = 0; seed <= 999999; seed += 3001) {
             Due.due("eclipses " + seed + ", who is hidden sees nothing", x.eclipses(seed, 60), seenUnder(seed, 60, 4));
         }
+    }
+
+    private static void eclipsesOfAllFive() {
+        EclipseSeats x = Due.told("hill 3;one 3 0;one 3 0;one 3 0;one 3 0;one 3 0;"
+                + "seat 0 0;seat 1 7;seat 2 2;seat 3 5;seat 4 3;");
+        int[] yards = {0, 7, 2, 5, 3};
+        int due = 0;
+        for (int y : yards) {
+            due += seenUnder(999999, 60, y);
+        }
+        Due.due("eclipses that five see", x.eclipses(999999, 60), due);
     }
 
     private static int seenUnder(int seed, int n, int y) {

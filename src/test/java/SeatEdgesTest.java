@@ -294,6 +294,9 @@ public final class SeatEdgesTest {
         x = Due.told("hill 3;one 3 0;one 3 0;one 3 0;seat 1 7;seat 2 6;");
         Due.due("of like ones the first that has a yard", x.move(0), 1);
         Due.due("nothing more", x.move(1), 0);
+        x = Due.told("hill 3;one 3 0;one 1 0;one 3 0;seat 0 2;seat 1 3;seat 2 5;");
+        Due.due("who hides the one behind, not the one before", x.move(0), 1);
+        Due.due("how much more", x.move(1), 222);
         x = Due.told("hill 3;heights 0 0 0 1 9 0 0 9;one 0 0;one 0 0;one 0 0;one 0 0;seat 2 3;seat 1 4;seat 0 5;");
         Due.due("hidden by one of two", x.move(0), 0);
         Due.due("hidden by both", x.move(1), 0);
