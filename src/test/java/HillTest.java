@@ -191,66 +191,61 @@ public final class HillTest {
     }
 
     private static void promise8Faults() {
+        fault("", 0);
+        fault("   ", 3);
+        fault("hill", 4);
+        fault("hil", 0);
+        fault("hills 0;", 0);
+        fault("hillz 0;", 0);
+        fault("hilla 0;", 0);
+        fault("hill`0;", 4);
+        fault("hill{0;", 4);
+        fault("hill/0;", 4);
+        fault("hill:0;", 4);
+        fault("Hill 0;", 0);
+        fault("hill 0", 6);
+        fault("hill  8;", 6);
+        fault("hill 10;", 5);
+        fault("hill 000;", 5);
+        fault("hill 001", 5);
+        fault("hill -1;", 5);
+        fault("hill;", 4);
+        fault("hill hill;", 5);
+        fault("hill 0 0;", 7);
+        fault("hill 0;;", 7);
+        fault("; hill 0;", 0);
+        fault(" dark 1;hill 0;", 1);
+        fault("5;", 0);
+        fault("hill 0;hill 0;", 7);
+        fault("hill 0;\n", 7);
+        fault("hill\t0;", 4);
+        fault("hill 0;dark 25;", 12);
+        fault("hill 0;dark 1;dark", 18);
+        fault("hill 0;sea", 7);
+        fault("hill 0;heights 0 0 0 0 0 0 0;", 28);
+        fault("hill 0;heights 0 0 0 0 0 0 0 0 0;", 31);
+        fault("hill 0;heights 0 10 0 0 0 0 0 0;", 17);
+        fault("hill 0;one 6 0;", 11);
+        fault("hill 0;one 0 51;", 13);
+        fault("hill 0;one 0;", 12);
+        fault("hill 0;one 0 500;", 13);
+        fault("hill 0;seat 0 0;", 12);
+        fault("hill 0;one 0 0;seat 1 0;", 20);
+        fault("hill 0;one 0 0;seat 0 8;", 22);
+        fault("hill 0;one 0 0;seat 0 1;seat 0 2;", 29);
+        fault("hill 0;one 0 0;one 0 0;seat 0 1;seat 1 1;", 39);
+        fault("hill 0;one 0 0;one 0 0;one 0 0;one 0 0;one 0 0;one", 47);
+        fault("hill 0;one 0 0;seat 0", 21);
+    }
+
+    private static void fault(String text, int place) {
         EclipseSeats x = new EclipseSeats();
         x.one(3, 70);
         x.sell(1);
-        long before = stateDigest(x);
-        fault(x, "", 0);
-        fault(x, "   ", 3);
-        fault(x, "hill", 4);
-        fault(x, "hil", 0);
-        fault(x, "hills 0;", 0);
-        fault(x, "hillz 0;", 0);
-        fault(x, "hilla 0;", 0);
-        fault(x, "hill`0;", 4);
-        fault(x, "hill{0;", 4);
-        fault(x, "hill/0;", 4);
-        fault(x, "hill:0;", 4);
-        fault(x, "Hill 0;", 0);
-        fault(x, "hill 0", 6);
-        fault(x, "hill  8;", 6);
-        fault(x, "hill 10;", 5);
-        fault(x, "hill 000;", 5);
-        fault(x, "hill 001", 5);
-        fault(x, "hill -1;", 5);
-        fault(x, "hill;", 4);
-        fault(x, "hill hill;", 5);
-        fault(x, "hill 0 0;", 7);
-        fault(x, "hill 0;;", 7);
-        fault(x, "; hill 0;", 0);
-        fault(x, " dark 1;hill 0;", 1);
-        fault(x, "5;", 0);
-        fault(x, "hill 0;hill 0;", 7);
-        fault(x, "hill 0;\n", 7);
-        fault(x, "hill\t0;", 4);
-        fault(x, "hill 0;dark 25;", 12);
-        fault(x, "hill 0;dark 1;dark", 18);
-        fault(x, "hill 0;sea", 7);
-        fault(x, "hill 0;heights 0 0 0 0 0 0 0;", 28);
-        fault(x, "hill 0;heights 0 0 0 0 0 0 0 0 0;", 31);
-        fault(x, "hill 0;heights 0 10 0 0 0 0 0 0;", 17);
-        fault(x, "hill 0;one 6 0;", 11);
-        fault(x, "hill 0;one 0 51;", 13);
-        fault(x, "hill 0;one 0;", 12);
-        fault(x, "hill 0;one 0 500;", 13);
-        fault(x, "hill 0;seat 0 0;", 12);
-        fault(x, "hill 0;one 0 0;seat 1 0;", 20);
-        fault(x, "hill 0;one 0 0;seat 0 8;", 22);
-        fault(x, "hill 0;one 0 0;seat 0 1;seat 0 2;", 29);
-        fault(x, "hill 0;one 0 0;one 0 0;seat 0 1;seat 1 1;", 39);
-        fault(x, "hill 0;one 0 0;one 0 0;one 0 0;one 0 0;one 0 0;one", 47);
-        fault(x, "hill 0;one 0 0;seat 0", 21);
-        Due.typeText(x, "");
-        Due.due("8 all stays", stateDigest(x), before);
+        Due.typeText(x, text);
+        long before = x.digest();
+        Due.due("8 fault in \"" + text + "\"", x.read(), -10 - place);
+        Due.due("8 all stays by \"" + text + "\"", x.digest(), before);
         Due.dueStatus(x, 0, 0, 0);
-    }
-
-    private static long stateDigest(EclipseSeats x) {
-        x.clear();
-        return x.digest();
-    }
-
-    private static void fault(EclipseSeats x, String text, int place) {
-        Due.due("8 fault in \"" + text + "\"", Due.readText(x, text), -10 - place);
     }
 }
