@@ -30,8 +30,8 @@ public final class EclipseSeats {
 
     private final Hill now = new Hill();
     private final Hill draft = new Hill();
+    // null: none was kept.
     private final Hill[] images = new Hill[IMAGES];
-    private final boolean[] kept = new boolean[IMAGES];
     private final Text text = new Text();
     private final Seating seating = new Seating();
     private final Duel duel = new Duel();
@@ -43,9 +43,6 @@ public final class EclipseSeats {
     private int fullCalls = 0;
 
     public EclipseSeats() {
-        for (int i = 0; i < IMAGES; i++) {
-            images[i] = new Hill();
-        }
     }
 
     // ---- a hill
@@ -376,8 +373,13 @@ public final class EclipseSeats {
         if (!within(i, IMAGES - 1)) {
             return bad(BAD);
         }
-        images[i].copyOf(now);
-        kept[i] = true;
+        Hill image = images[i];
+        // Made by the first call and written over by later ones, as all calls share one room.
+        if (image == null) {
+            image = new Hill();
+            images[i] = image;
+        }
+        image.copyOf(now);
         return 1;
     }
 
@@ -385,10 +387,11 @@ public final class EclipseSeats {
         if (!within(i, IMAGES - 1)) {
             return bad(BAD);
         }
-        if (!kept[i]) {
+        Hill image = images[i];
+        if (image == null) {
             return no();
         }
-        now.copyOf(images[i]);
+        now.copyOf(image);
         return 1;
     }
 

@@ -40,6 +40,8 @@ public final class LanguageTest {
             }
         }
         objectsAreMadeAheadOfCalls(code);
+        elementsAreLookedAt(code);
+        methodsAreShort(source);
         classesAreSmall();
         Due.end();
     }
@@ -101,12 +103,44 @@ public final class LanguageTest {
         }
     }
 
-    /** No call makes an object: "new" stands in fields and in the constructor alone. */
+    /** "new" stands in fields alone, but for an image, which the first call that keeps it makes. */
     private static void objectsAreMadeAheadOfCalls(String code) {
         for (String line : code.split("\n")) {
-            if (line.matches(".*\\bnew\\b.*") && !line.matches("\\s*(private )?final .*") && !line.contains("images[i] = new Hill()")) {
+            if (line.matches(".*\\bnew\\b.*") && !line.matches("\\s*(private )?final .*") && !line.contains("image = new Hill()")) {
                 tell("an object is made in a call: " + line.trim());
             }
+        }
+    }
+
+    /** Rule 7: what an array of objects holds may be null, so it is looked at first, in a variable of its own. */
+    private static void elementsAreLookedAt(String code) {
+        Matcher array = Pattern.compile("\\b[A-Z]\\w*\\[\\] (\\w+)").matcher(code);
+        while (array.find()) {
+            Matcher used = Pattern.compile("\\b" + array.group(1) + "\\[[^\\]]*\\]\\s*\\.").matcher(code);
+            while (used.find()) {
+                tell("used before it is looked at: " + used.group());
+            }
+            Matcher taken = Pattern.compile("(\\w+) = " + array.group(1) + "\\[[^\\]]*\\];\\s*(.*)").matcher(code);
+            while (taken.find()) {
+                if (!taken.group(2).equals("if (" + taken.group(1) + " == null) {")) {
+                    tell("not looked at: " + taken.group());
+                }
+            }
+        }
+    }
+
+    /** Rule 11: a method begins on a line that no word of a statement begins, and ends at its own brace. */
+    private static void methodsAreShort(String source) {
+        Matcher method = Pattern.compile("(?ms)^(    |        )(?!if|for|while|do|switch|else|\\}|\\s)[^\\n;]*\\) \\{$.*?^\\1\\}$").matcher(source);
+        int methods = 0;
+        while (method.find()) {
+            methods++;
+            if (method.group().lines().count() > 60) {
+                tell("more than sixty lines: " + method.group().lines().findFirst().get().trim());
+            }
+        }
+        if (methods < FACE.length) {
+            tell("not all methods were found: " + methods);
         }
     }
 
